@@ -483,6 +483,10 @@ public final class Linkloom {
         private int portNumber;
         private boolean isHeld;
 
+        Address() {
+            forget();
+        }
+
         Text whole() {
             return whole;
         }

@@ -9,6 +9,7 @@ public final class ParseTest {
         taken();
         refused();
         badInAuthority();
+        eachSign();
         slotsAndRefusals();
         servers();
         kinds();
@@ -102,6 +103,36 @@ public final class ParseTest {
         refusedAt("a:b//{", 5);
         refusedAt("//?{", 3);
         refusedAt("a:///{", 5);
+    }
+
+    /** Each sign that can be typed, at each kind of place where the rules tell signs apart. */
+    private static void eachSign() {
+        for (char sign = '!'; sign <= '~'; sign++) {
+            if ("%[]0".indexOf(sign) < 0) {
+                String s = String.valueOf(sign);
+                boolean isLetter = s.matches("[a-zA-Z]");
+                boolean isScheme = s.matches("[a-zA-Z1-9+.-]");
+                if (":/?#".indexOf(sign) < 0) {
+                    refusedAt(s + ":b", isLetter ? -1 : 0);
+                    refusedAt("a" + s + ":b", isScheme ? -1 : 1);
+                }
+                if ("/?#@:".indexOf(sign) < 0 && BAD_SIGNS.indexOf(sign) < 0) {
+                    hostOf(s, s.matches("[a-zA-Z1-9]"));
+                    hostOf("a" + s + "b", s.matches("[a-zA-Z1-9.-]"));
+                    hostOf("a." + s, isLetter);
+                    server("h:" + s, null, s.matches("[1-9]") ? "h" : null, s.matches("[1-9]") ? sign - '0' : -1);
+                }
+                boolean isBad = BAD_SIGNS.indexOf(sign) >= 0;
+                refusedAt("a:b" + s, isBad ? 3 : -1);
+                refusedAt("/" + s, isBad ? 1 : sign == '/' ? 2 : -1);
+                refusedAt("?" + s, isBad ? 1 : -1);
+                refusedAt("#" + s, isBad || sign == '#' ? 1 : -1);
+            }
+        }
+    }
+
+    private static void hostOf(String host, boolean isHost) {
+        server(host, null, isHost ? host : null, -1);
     }
 
     private static void slotsAndRefusals() {
