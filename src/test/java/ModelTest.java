@@ -53,15 +53,13 @@ public final class ModelTest {
         // Some runs mostly type and parse, others mostly ask.
         int typing = 4 + run % 24;
         for (int call = 0; call < CALLS; call++) {
-            boolean isTyping = next(32) < typing;
             String what = "run " + run + " call " + call + ", text " + y.text() + ": ";
-            if (isTyping) {
+            if (call % 16 == 15) {
+                same(what + "checksum", x::checksum, y::checksum);
+            } else if (next(32) < typing) {
                 typingCall(what, x, y);
             } else {
                 askingCall(what, x, y);
-            }
-            if (call % 16 == 15) {
-                same(what + "checksum", x::checksum, y::checksum);
             }
         }
     }

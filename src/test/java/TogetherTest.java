@@ -1,200 +1,501 @@
+import java.math.BigInteger;
 import java.util.NoSuchElementException;
 
 /** Promises 23 to 26: parts put together, the theorem, and the sum. */
-public final class TogetherTest {
-    private static final int[] WRONG_SLOTS = {-1, 4, Integer.MIN_VALUE, Integer.MAX_VALUE};
+final class TogetherTest {
+    private static final int[] WRONG_SLOTS = {-1, 4, 256, Integer.MIN_VALUE, Integer.MAX_VALUE};
     private static final String PARTS = "smauhpqfw";
-    private static final String FULL = "http://u:p@h:9/p?q#f";
+    private static final String MIXED = "sapqf";
+    private static final String ALL = "ab://u:p@h.i:9/pq?x=1#f";
 
     public static void main(String[] args) {
-        together();
-        mix();
-        mixTooLong();
-        mixWrongs();
-        isTrue();
-        checksum();
-        Due.end("TogetherTest");
+        Due.run(TogetherTest.class);
     }
 
-    private static void together() {
-        String[] whole = {"", "a", FULL, "a:b", "a:b#", "a:/b", "//h", "//h?#", "?", "#", "/b%41", "a:b//c?d"};
-        for (String text : whole) {
-            together(text, text, true);
-        }
-        together("a:///b", "a:/b", false);
-        together("///", "/", false);
-        together("////b", "//b", false);
-        together("//?", "?", false);
-        together("//#", "#", false);
-        together("a:///?q#f", "a:/?q#f", false);
-        Linkloom x = new Linkloom();
-        for (int wrong : WRONG_SLOTS) {
-            Due.dueThrow("together", x, IndexOutOfBoundsException.class, () -> Due.asLong(x.together(wrong)));
-        }
-        Due.dueThrow("together", x, NoSuchElementException.class, () -> Due.asLong(x.together(0)));
-    }
+    // ---- promise 23: together
 
     private static void together(String text, String want, boolean isWhole) {
-        Linkloom x = new Linkloom();
-        Due.parse(x, 2, text);
-        x.type('z');
-        Due.due("together of " + text, x.together(2), isWhole);
-        Due.due("together of " + text, Due.text(x), want);
-        Due.due("the slot stays", "" + Due.part(x, 2, 'w'), text);
-        int pieces = want.replaceAll("%..", "%").length();
-        for (int i = 0; i < pieces; i++) {
-            x.drop();
-        }
-        Due.due("pieces of " + text, x.length(), 0);
+        Linkloom x = Due.made("z", null, text);
+        Due.due("together of " + text, x.together(1), isWhole);
+        Due.due("the text of " + text, Due.text(x), want);
+        Due.due("the slot", Due.part(x, 1, 'w'), text);
     }
 
-    private static void mix() {
-        mixed(FULL, "a://b/c?d#e", 's', "a://u:p@h:9/p?q#f");
-        mixed(FULL, "a://b/c?d#e", 'a', "http://b/p?q#f");
-        mixed(FULL, "a://b/c?d#e", 'p', "http://u:p@h:9/c?q#f");
-        mixed(FULL, "a://b/c?d#e", 'q', "http://u:p@h:9/p?d#f");
-        mixed(FULL, "a://b/c?d#e", 'f', "http://u:p@h:9/p?q#e");
-        mixed(FULL, "", 's', "//u:p@h:9/p?q#f");
-        mixed(FULL, "", 'a', "http:/p?q#f");
-        mixed(FULL, "", 'p', "http://u:p@h:9?q#f");
-        mixed(FULL, "", 'q', "http://u:p@h:9/p#f");
-        mixed(FULL, "", 'f', "http://u:p@h:9/p?q");
-        mixed("", FULL, 's', "http:");
-        mixed("", FULL, 'a', "//u:p@h:9");
-        mixed("", FULL, 'p', "/p");
-        mixed("", FULL, 'q', "?q");
-        mixed("", FULL, 'f', "#f");
+    private static void whole(String text) {
+        together(text, text, true);
+    }
+
+    @Says({"Makes the text what the parts of an address are, put together by the rule 7",
+            "Returns whether it is the whole address.", "Put together by the rule 7 its parts are the address again, "
+            + "sign by sign"})
+    static void promise23TheTextIsTheAddressAgain() {
+        whole(ALL);
+        whole("a:b");
+        whole("a:b//c?d#e");
+        whole("//u@a_b:9/p");
+        whole("a:/p");
+        whole("a");
+    }
+
+    @Says({"unless the rest that rule 3 looks at begins with two slashes and there is no authority: then they are it "
+            + "without these two.", "Returns whether it is the whole address."})
+    static void promise23TwoSlashesWithoutAnAuthorityAreLeftOut() {
+        together("///p", "/p", false);
+        together("a:///p?q#f", "a:/p?q#f", false);
+        together("///", "/", false);
+        together("////h", "//h", false);
+        together("//?", "?", false);
+        together("//#", "#", false);
+        together("a://?", "a:?", false);
+    }
+
+    @Says("unless the rest that rule 3 looks at begins with two slashes")
+    static void promise23OtherSlashesAreNotLeftOut() {
+        whole("/");
+        whole("/a//b");
+        whole("a//b");
+        whole("a:b//c");
+        whole("?//");
+        whole("//h//p");
+    }
+
+    @Says("Rule 7. Parts are put together in this order: the scheme and ':'; of an opaque address the scheme-specific "
+            + "part, of any other one two slashes and the authority, the path, '?' and the query; '#' and the fragment")
+    static void promise23ThePartsStandInTheOrderOfTheRule() {
+        whole("a://b/c?d#e");
+        whole("a:b?c#d");
+    }
+
+    @Says("each with its signs only if the address has it.")
+    static void promise23EmptyPartsHaveTheirSignsAndNoPartsHaveNone() {
+        whole("");
+        whole("?");
+        whole("#");
+        whole("?#");
+        whole("//h?#");
+        whole("//@h:");
+        whole("a:b#");
+        whole("a:/#");
+        whole("/p?");
+    }
+
+    @Says("each of its signs, and each escape in it, is a piece.")
+    static void promise23EachSignAndEachEscapeIsAPiece() {
+        Linkloom x = Due.made("zzzzzz", "a:///p%41?%7eq");
+        x.together(0);
+        Due.due("the text", Due.text(x), "a:/p%41?%7eq");
+        Due.due("drops", Due.drops(x), "11 8 7 4 3 2 1 0");
+    }
+
+    @Says("Makes the text what the parts of an address are")
+    static void promise23TheLongestAddressIsPutTogether() {
+        whole(Due.signs(60));
+        whole("a://h/" + Due.signs(54));
+        together("///" + Due.signs(57), "/" + Due.signs(57), false);
+    }
+
+    @Says("Makes the text what the parts of an address are")
+    static void promise23TheTextThatWasThereIsGone() {
+        Linkloom x = Due.made(Due.signs(60), "", "b");
+        x.together(1);
+        Due.due("the text", Due.text(x), "b");
+        x.together(0);
+        Due.due("length", x.length(), 0);
+        Due.due("drop", Due.answer(x, Linkloom::drop), NoSuchElementException.class.getName());
+    }
+
+    @Says("`slot`: 0 to 3")
+    static void promise23TheSlots0And3AreTaken() {
+        Linkloom x = Due.made("", "a", null, null, "b");
+        x.together(3);
+        Due.due("the text", Due.text(x), "b");
+        x.together(0);
+        Due.due("the text", Due.text(x), "a");
+    }
+
+    @Says({"Throws `IndexOutOfBoundsException` if there is no such slot",
+            "If several exceptions apply, the one that is documented first is thrown."})
+    static void promise23ThereAreNoSlotsBelow0AndAbove3() {
+        for (int slot : WRONG_SLOTS) {
+            Due.refused("together " + slot, IndexOutOfBoundsException.class, () -> Due.made("z%41", "a"),
+                    x -> Due.asLong(x.together(slot)));
+            Due.refused("together " + slot, IndexOutOfBoundsException.class, Linkloom::new,
+                    x -> Due.asLong(x.together(slot)));
+        }
+    }
+
+    @Says("Throws `NoSuchElementException` if it has no address")
+    static void promise23ASlotWithoutAnAddressIsRefused() {
+        for (int slot = 1; slot < 4; slot++) {
+            int empty = slot;
+            Due.refused("together " + slot, NoSuchElementException.class, () -> Due.made("z%41", "a"),
+                    x -> Due.asLong(x.together(empty)));
+        }
+    }
+
+    // ---- promise 24: mix
+
+    private static void mixed(String one, String other, char part, String want) {
+        Linkloom x = Due.made("z", null, one, null, other);
+        Due.due("mix of " + one + " and " + other + " " + part, x.mix(1, 3, part), want.length());
+        Due.due("the text of " + one + " and " + other + " " + part, Due.text(x), want);
+        Due.due("the slot", Due.part(x, 1, 'w'), one);
+        Due.due("the other slot", Due.part(x, 3, 'w'), other);
+    }
+
+    @Says("Makes the text what the parts of an address are, put together by the rule 7, but one part from another "
+            + "address instead: with that part if the other one has it")
+    static void promise24OnePartIsTakenFromTheOther() {
+        mixed(ALL, "c://d/e?g#j", 's', "c://u:p@h.i:9/pq?x=1#f");
+        mixed(ALL, "c://d/e?g#j", 'a', "ab://d/pq?x=1#f");
+        mixed(ALL, "c://d/e?g#j", 'p', "ab://u:p@h.i:9/e?x=1#f");
+        mixed(ALL, "c://d/e?g#j", 'q', "ab://u:p@h.i:9/pq?g#f");
+        mixed(ALL, "c://d/e?g#j", 'f', "ab://u:p@h.i:9/pq?x=1#j");
+    }
+
+    @Says("with that part if the other one has it")
+    static void promise24APartIsPutWhereThereWasNone() {
+        mixed("", ALL, 's', "ab:");
+        mixed("", ALL, 'a', "//u:p@h.i:9");
+        mixed("", ALL, 'p', "/pq");
+        mixed("", ALL, 'q', "?x=1");
+        mixed("", ALL, 'f', "#f");
+        mixed("///p", "//h", 'a', "//h/p");
+    }
+
+    @Says("with that part if the other one has it")
+    static void promise24AnEmptyPartIsPutWithItsSign() {
         mixed("a", "?#", 'q', "a?");
         mixed("a", "?#", 'f', "a#");
-        mixed("a", "//@h:", 'a', "//@h:a");
-        mixed("file:///p/q", "//1.2.3.4:81", 'a', "file://1.2.3.4:81/p/q");
+        mixed("/a?b#c", "?#", 'q', "/a?#c");
+        mixed("/a?b#c", "?#", 'p', "?b#c");
+    }
+
+    @Says("and without it if it does not")
+    static void promise24APartThatTheOtherDoesNotHaveIsLeftOut() {
+        mixed(ALL, "", 's', "//u:p@h.i:9/pq?x=1#f");
+        mixed(ALL, "", 'a', "ab:/pq?x=1#f");
+        mixed(ALL, "", 'p', "ab://u:p@h.i:9?x=1#f");
+        mixed(ALL, "", 'q', "ab://u:p@h.i:9/pq#f");
+        mixed(ALL, "", 'f', "ab://u:p@h.i:9/pq?x=1");
+        mixed(ALL, "///p", 'a', "ab:/pq?x=1#f");
+    }
+
+    @Says("put together by the rule 7")
+    static void promise24NoOneAsksWhetherItIsAnAddress() {
+        mixed("a", "b:/", 's', "b:a");
         mixed("a:////b", "c:/", 's', "c://b");
-        mixed("/a", "b%41", 'p', "b%41");
-        Linkloom x = new Linkloom();
-        Due.parse(x, 0, "///p");
-        x.type('z');
-        Due.due("mix with itself", x.mix(0, 0, 'a'), 2);
-        Due.due("mix with itself", Due.text(x), "/p");
+        mixed("///a", "b", 'p', "b");
+        mixed("//h/a", "b", 'p', "//hb");
+        mixed("", "a:/", 's', "a:");
     }
 
-    private static void mixed(String text, String other, char part, String want) {
-        Linkloom x = new Linkloom();
-        Due.parse(x, 3, text);
-        Due.parse(x, 1, other);
-        x.type('z');
-        Due.due("mix " + text + " " + other + " " + part, x.mix(3, 1, part), want.length());
-        Due.due("mix " + text + " " + other + " " + part, Due.text(x), want);
-        Due.due("the slots stay", Due.part(x, 3, 'w') + Due.part(x, 1, 'w'), text + other);
-        if (want.endsWith("%41")) {
-            Due.due("drop() of an escape", x.drop(), want.length() - 3);
+    @Says("put together by the rule 7")
+    static void promise24AnAddressIsMixedWithItself() {
+        for (char part : MIXED.toCharArray()) {
+            Linkloom x = Due.made("z", "a:///p?q#f");
+            Due.due("mix " + part, x.mix(0, 0, part), 8);
+            Due.due("the text", Due.text(x), "a:/p?q#f");
         }
     }
 
-    private static void mixTooLong() {
-        String path = "/aaaaaaaaaaaaaaaaaaaaaaaaaaaaaaaaaaaaaaaa";
-        Linkloom x = new Linkloom();
-        Due.parse(x, 0, "a://h" + path);
-        Due.parse(x, 1, "a:/?bbbbbbbbbbbbb");
-        Due.parse(x, 2, "a:/?bbbbbbbbbbbbbb");
-        Due.parse(x, 3, "//" + path.substring(1) + "bbbbbbbbbbbbbbbbb");
-        Due.due("mix to 60", x.mix(0, 1, 'q'), 60);
-        Due.dueThrow("mix to 61", x, IllegalStateException.class, () -> x.mix(0, 2, 'q'));
-        Due.dueThrow("mix to over 100", x, IllegalStateException.class, () -> x.mix(0, 3, 'a'));
-        Due.due("mix to fewer", x.mix(3, 0, 'a'), 3);
-        Due.parse(x, 1, "?" + path + "bbbbbbbbbbbbbbbbbb");
-        Due.parse(x, 2, "#" + path + "bbbbbbbbbbbbbbbbbb");
-        Due.dueThrow("mix to 120", x, IllegalStateException.class, () -> x.mix(1, 2, 'f'));
-        Due.dueThrow("mix to 120", x, IllegalStateException.class, () -> x.mix(2, 1, 'q'));
-        Due.due("the text stays", Due.text(x), "#" + path + "bbbbbbbbbbbbbbbbbb");
+    @Says("each of its signs, and each escape in it, is a piece.")
+    static void promise24EachSignAndEachEscapeIsAPiece() {
+        Linkloom x = Due.made("zzzzzz", "/a%41?b", "?%7ec");
+        x.mix(0, 1, 'q');
+        Due.due("the text", Due.text(x), "/a%41?%7ec");
+        Due.due("drops", Due.drops(x), "9 6 5 2 1 0");
     }
 
-    private static void mixWrongs() {
-        String long60 = "/aaaaaaaaaaaaaaaaaaaaaaaaaaaaaaaaaaaaaaaaaaaaaaaaaaaaaaaaaaa";
-        Linkloom x = new Linkloom();
-        Due.parse(x, 0, long60);
-        Due.parse(x, 1, "a:b");
-        Due.parse(x, 2, "?q");
-        char[] wrongParts = {'m', 'u', 'h', 'w', 'x', 'S', (char) 0, (char) 65535};
-        for (int wrong : WRONG_SLOTS) {
-            for (int i = 0; i < 4; i++) {
-                int slot = i;
-                Due.dueThrow("mix", x, IndexOutOfBoundsException.class, () -> x.mix(wrong, slot, 'x'));
-                Due.dueThrow("mix", x, IndexOutOfBoundsException.class, () -> x.mix(slot, wrong, 'x'));
-            }
-        }
-        for (char part : wrongParts) {
-            Due.dueThrow("mix", x, NoSuchElementException.class, () -> x.mix(3, 1, part));
-            Due.dueThrow("mix", x, NoSuchElementException.class, () -> x.mix(1, 3, part));
-            Due.dueThrow("mix", x, IllegalArgumentException.class, () -> x.mix(0, 1, part));
-            Due.dueThrow("mix", x, IllegalArgumentException.class, () -> x.mix(1, 0, part));
-            Due.dueThrow("mix", x, IllegalArgumentException.class, () -> x.mix(0, 2, part));
-        }
-        for (char part : "sapqf".toCharArray()) {
-            Due.dueThrow("mix", x, NoSuchElementException.class, () -> x.mix(3, 1, part));
-            Due.dueThrow("mix", x, UnsupportedOperationException.class, () -> x.mix(0, 1, part));
-            Due.dueThrow("mix", x, UnsupportedOperationException.class, () -> x.mix(1, 0, part));
-            Due.dueThrow("mix", x, UnsupportedOperationException.class, () -> x.mix(1, 1, part));
-        }
-        Due.dueThrow("mix", x, IllegalStateException.class, () -> x.mix(0, 2, 'q'));
-        Due.due("mix", x.mix(0, 2, 'f'), 60);
+    @Says("Returns how many signs the text has then.")
+    static void promise24MixReturnsHowManySignsThereAre() {
+        Linkloom x = Due.made(Due.signs(60), "/ab", "c");
+        Due.due("mix", x.mix(0, 1, 'p'), 1);
+        Due.due("mix", x.mix(0, 1, 'f'), 3);
+        Due.due("mix of nothing", Due.made("z", "#", "").mix(0, 1, 'f'), 0);
     }
 
-    private static void isTrue() {
-        Linkloom x = new Linkloom();
-        String[] texts = {"", "a:b#c", "a:///b?c#", "////", "//?", FULL, "//a_b:9", "/%41", "//@h:2147483647/"};
-        for (int i = 0; i < texts.length; i++) {
-            Due.parse(x, i % 4, texts[i]);
-            long before = x.checksum();
-            Due.due("isTrue() with " + texts[i], x.isTrue(), true);
-            Due.due("isTrue() changes nothing", x.checksum(), before);
-            Due.due("isTrue() leaves the text", Due.text(x), texts[i]);
-        }
-        Due.due("parse", Due.parse(x, 0, "<"), 0);
-        Due.due("isTrue()", x.isTrue(), true);
-        Due.due("refusals() stays", x.refusals(), 1);
-    }
-
-    private static void checksum() {
-        Linkloom x = new Linkloom();
-        sum(x);
-        Due.due("checksum() of a new one", x.checksum(), ((((7L * 31) * 31) * 31) * 31) * 31);
-        Due.typeAll(x, "ab");
-        sum(x);
-        Due.parse(x, 1, "{");
-        sum(x);
-        Due.parse(x, 2, FULL);
-        sum(x);
-        Due.parse(x, 0, "a:b#");
-        Due.parse(x, 3, "//h:2147483647");
-        sum(x);
-        x.copy(1, 0);
-        sum(x);
-        Due.parse(x, 1, "a/b");
-        for (int i = 0; i < 20; i++) {
-            x.parse(1);
-            x.type('}');
-            sum(x);
+    @Says("`part`: 's', 'a', 'p', 'q' or 'f'")
+    static void promise24FivePartsCanBeMixed() {
+        for (char part : MIXED.toCharArray()) {
+            Due.due("mix " + part, Due.made("z", "/p", "/q").mix(0, 1, part), 2);
         }
     }
 
-    /** The sum, put together by the other calls' answers. */
-    private static void sum(Linkloom x) {
-        long sum = 7;
-        for (int place = 0; place < x.length(); place++) {
-            sum = 31 * sum + x.signAt(place);
+    @Says("Throws `IllegalArgumentException` if there is no such part, or it is none of the five")
+    static void promise24NoOtherPartCanBeMixed() {
+        for (char part : new char[] {'m', 'u', 'h', 'w', 'x', 'b', 'S', 'F', ' ', (char) 0, (char) (256 + 's')}) {
+            Due.refused("mix " + part, IllegalArgumentException.class, () -> Due.made("z", ALL, ALL),
+                    x -> x.mix(0, 1, part));
         }
-        sum = 31 * sum + x.refusals();
+    }
+
+    @Says({"`slot`: 0 to 3", "`other`: the slot of the other address"})
+    static void promise24TheSlots0And3AreTaken() {
+        Linkloom x = Due.made("", "/a?b", null, null, "/c?d");
+        x.mix(0, 3, 'q');
+        Due.due("the text", Due.text(x), "/a?d");
+        x.mix(3, 0, 'q');
+        Due.due("the text", Due.text(x), "/c?b");
+    }
+
+    @Says("Throws `IndexOutOfBoundsException` if there is no such slot, for either")
+    static void promise24ThereAreNoSlotsBelow0AndAbove3() {
+        for (int slot : WRONG_SLOTS) {
+            Due.refused("mix", IndexOutOfBoundsException.class, () -> Due.made("z", "a"), x -> x.mix(slot, 0, 'p'));
+            Due.refused("mix", IndexOutOfBoundsException.class, () -> Due.made("z", "a"), x -> x.mix(0, slot, 'p'));
+            Due.refused("mix", IndexOutOfBoundsException.class, () -> Due.made("z", "a"), x -> x.mix(slot, slot, 'p'));
+        }
+    }
+
+    @Says("Throws `NoSuchElementException` if one of both has no address")
+    static void promise24BothSlotsNeedAnAddress() {
+        Due.refused("mix", NoSuchElementException.class, () -> Due.made("z", "a"), x -> x.mix(0, 1, 'p'));
+        Due.refused("mix", NoSuchElementException.class, () -> Due.made("z", "a"), x -> x.mix(1, 0, 'p'));
+        Due.refused("mix", NoSuchElementException.class, () -> Due.made("z", "a"), x -> x.mix(2, 3, 'p'));
+    }
+
+    @Says("Throws `UnsupportedOperationException` if one of both is opaque")
+    static void promise24NoOpaqueAddressIsMixed() {
+        for (char part : MIXED.toCharArray()) {
+            notMixed("a:b#c", "/a", part);
+            notMixed("/a", "a:b#c", part);
+            notMixed("a:b", "c:d", part);
+        }
+        Due.refused("mix with itself", UnsupportedOperationException.class, () -> Due.made("z", "a:b"),
+                x -> x.mix(0, 0, 'f'));
+    }
+
+    private static void notMixed(String one, String other, char part) {
+        Due.refused("mix of " + one + " and " + other + " " + part, UnsupportedOperationException.class,
+                () -> Due.made("z", one, other), x -> x.mix(0, 1, part));
+    }
+
+    @Says("The text has at most 60 signs")
+    static void promise24AMixOfSixtySignsIsTaken() {
+        mixed("a://h/" + Due.signs(40), "?" + Due.signs(13), 'q', "a://h/" + Due.signs(40) + "?" + Due.signs(13));
+        mixed("/" + Due.signs(58), "#", 'f', "/" + Due.signs(58) + "#");
+        mixed("/" + Due.signs(59), "//h", 'q', "/" + Due.signs(59));
+    }
+
+    @Says("Throws `IllegalStateException` if the text would have more than 60 signs")
+    static void promise24AMixOfMoreSignsIsRefused() {
+        mixTooLong("a://h/" + Due.signs(40), "?" + Due.signs(14), 'q');
+        mixTooLong("/" + Due.signs(59), "#", 'f');
+        mixTooLong("/" + Due.signs(59), "?", 'q');
+        mixTooLong("/" + Due.signs(58), "a:/", 's');
+        mixTooLong("/" + Due.signs(57), "//h", 'a');
+    }
+
+    @Says("Throws `IllegalStateException` if the text would have more than 60 signs")
+    static void promise24TheLongestMixesAreRefused() {
+        mixTooLong("?" + Due.signs(59), "#" + Due.signs(59), 'f');
+        mixTooLong("#" + Due.signs(59), "?" + Due.signs(59), 'q');
+        mixTooLong("/" + Due.signs(59), Due.signs(58) + ":/", 's');
+        mixTooLong("/" + Due.signs(59), "//" + Due.signs(58), 'a');
+        mixTooLong("a://h?" + Due.signs(54), Due.signs(60), 'p');
+    }
+
+    private static void mixTooLong(String one, String other, char part) {
+        Linkloom x = Due.made("z%41", one, other);
+        Due.due("mix of " + one + " and " + other, Due.answer(x, y -> y.mix(0, 1, part)),
+                IllegalStateException.class.getName());
+        Due.due("the text", Due.text(x), "z%41");
+        Due.due("the slots", Due.part(x, 0, 'w') + " " + Due.part(x, 1, 'w'), one + " " + other);
+        Due.due("drop", x.drop(), 1);
+    }
+
+    @Says("If several exceptions apply, the one that is documented first is thrown.")
+    static void promise24AWrongSlotComesAheadOfAllElse() {
+        for (int slot : WRONG_SLOTS) {
+            Due.refused("mix", IndexOutOfBoundsException.class, () -> Due.made("z", "a:b"), x -> x.mix(slot, 1, 'x'));
+            Due.refused("mix", IndexOutOfBoundsException.class, () -> Due.made("z", "a:b"), x -> x.mix(1, slot, 'x'));
+            Due.refused("mix", IndexOutOfBoundsException.class, () -> Due.made("z", "a:b"), x -> x.mix(0, slot, 's'));
+        }
+    }
+
+    @Says("If several exceptions apply, the one that is documented first is thrown.")
+    static void promise24ASlotWithoutAnAddressComesAheadOfThePartAndAnOpaqueOne() {
+        for (char part : "mxs".toCharArray()) {
+            Due.refused("mix", NoSuchElementException.class, () -> Due.made("z", "a:b"), x -> x.mix(0, 1, part));
+            Due.refused("mix", NoSuchElementException.class, () -> Due.made("z", "a:b"), x -> x.mix(1, 0, part));
+        }
+    }
+
+    @Says("If several exceptions apply, the one that is documented first is thrown.")
+    static void promise24AWrongPartComesAheadOfAnOpaqueAddress() {
+        for (char part : "mx".toCharArray()) {
+            Due.refused("mix", IllegalArgumentException.class, () -> Due.made("z", "a:b", "/c"),
+                    x -> x.mix(0, 1, part));
+            Due.refused("mix", IllegalArgumentException.class, () -> Due.made("z", "a:b", "/c"),
+                    x -> x.mix(1, 0, part));
+        }
+    }
+
+    @Says("If several exceptions apply, the one that is documented first is thrown.")
+    static void promise24AllOthersComeAheadOfTooManySigns() {
+        String longest = "a:" + Due.signs(58);
+        String query = "?" + Due.signs(59);
+        Due.refused("mix", UnsupportedOperationException.class, () -> Due.made("z", longest, query),
+                x -> x.mix(0, 1, 'q'));
+        Due.refused("mix", IllegalArgumentException.class, () -> Due.made("z", "/" + Due.signs(59), query),
+                x -> x.mix(0, 1, 'x'));
+    }
+
+    // ---- promise 25: isTrue
+
+    private static void isTrue(String text) {
+        Due.asks("isTrue with " + text, 1, () -> Due.made("z%41", null, text), x -> Due.asLong(x.isTrue()));
+    }
+
+    @Says({"Checks the theorem for all addresses that there are: each, parsed anew as it is told whole, has the same "
+            + "parts", "Returns whether it is so.", "Parsed anew it has the same parts."})
+    static void promise25TheTheoremIsTrueOfEachKindOfAddress() {
+        for (String text : ("a:b a:b#c a:/p ab://u@h:9/p?q#f //a_b:9 //h:2147483647 //1.2.3.4: a/b %41%7e? ?q# #f / "
+                + "a:b//c").split(" ")) {
+            isTrue(text);
+        }
+        isTrue(Due.signs(60));
+    }
+
+    @Says({"its scheme, scheme-specific part and fragment, put together with ':' and '#', are it", "An address is its "
+            + "scheme and ':', if there is a scheme, its scheme-specific part, and '#' and its fragment, if there is a "
+            + "fragment."})
+    static void promise25ThreePartsAreTheAddress() {
+        for (String text : new String[] {"", ALL, "a:b", "a:b#", "#f", "//h?q#", "///p", "a:////#f"}) {
+            Linkloom x = Due.made("", text);
+            String scheme = x.size(0, 's') < 0 ? "" : Due.part(x, 0, 's') + ":";
+            String fragment = x.size(0, 'f') < 0 ? "" : "#" + Due.part(x, 0, 'f');
+            Due.due("three parts of " + text, scheme + Due.part(x, 0, 'm') + fragment, text);
+            isTrue(text);
+        }
+    }
+
+    @Says("and the parts put together by the rule 7 are it, as the theorem tells.")
+    static void promise25ItIsTrueOfTwoSlashesWithoutAnAuthority() {
+        for (String text : "/// //// ////h //? //# a:///p a://? a:////".split(" ")) {
+            isTrue(text);
+        }
+    }
+
+    @Says("for all addresses that there are")
+    static void promise25ItIsTrueIfThereAreNoAddressesOrFour() {
+        Due.asks("isTrue", 1, Linkloom::new, x -> Due.asLong(x.isTrue()));
+        Due.asks("isTrue", 1, () -> Due.made("{", "a:b", "///p", "//h:9?q", "#f"), x -> Due.asLong(x.isTrue()));
+    }
+
+    @Says("Checks the theorem")
+    static void promise25TheCheckIsNoRefusalAndNoParse() {
+        Linkloom x = Due.made("9:", "a:b");
+        x.parse(1);
+        Due.due("isTrue", x.isTrue(), true);
+        Due.due("refusals", x.refusals(), 1);
+        Due.due("refusedAt", x.refusedAt(), 0);
+        Due.due("isThere", x.isThere(1), false);
+        Due.due("the text", Due.text(x), "9:");
+    }
+
+    // ---- promise 26: checksum
+
+    private static void sum(String what, Linkloom x, BigInteger want) {
+        Due.due("checksum of " + what, x.checksum(), want.longValue());
+    }
+
+    private static BigInteger sum(int... numbers) {
+        BigInteger sum = BigInteger.valueOf(7);
+        for (int number : numbers) {
+            sum = sum.multiply(BigInteger.valueOf(31)).add(BigInteger.valueOf(number));
+        }
+        return sum;
+    }
+
+    @Says({"Returns a sum over all", "Returns 7 at first"})
+    static void promise26TheSumOfANewObject() {
+        sum("a new object", new Linkloom(), sum(0, 0, 0, 0, 0));
+    }
+
+    @Says("then, for each sign of the text, 31 times itself plus its code")
+    static void promise26EachSignOfTheTextCounts() {
+        sum("ab", Due.made("ab"), sum('a', 'b', 0, 0, 0, 0, 0));
+        sum("%7e", Due.made("%7e"), sum('%', '7', 'e', 0, 0, 0, 0, 0));
+    }
+
+    @Says("then likewise refusals()")
+    static void promise26RefusalsCount() {
+        Linkloom x = Due.made("{");
+        x.parse(0);
+        x.parse(1);
+        x.parse(2);
+        sum("three refusals", x, sum('{', 3, 0, 0, 0, 0));
+    }
+
+    @Says({"then, for each slot, likewise 0 if it has no address", "otherwise each of the nine parts' size() in their "
+            + "order, then port()."})
+    static void promise26TheSizesAndThePortOfEachAddressCount() {
+        sum("one address", Due.made("", ALL), sum(0, 2, 18, 9, 3, 3, 3, 3, 1, 23, 9, 0, 0, 0));
+        sum("the last slot's", Due.made("", null, null, null, "a"), sum(0, 0, 0, 0, -1, 1, -1, -1, -1, 1, -1, -1, 1, -1));
+        sum("two addresses", Due.made("z", null, "a:b#", "//h:2147483647"), sum('z', 0, 0,
+                1, 1, -1, -1, -1, -1, -1, 0, 4, -1, -1, 14, 12, -1, 1, 0, -1, -1, 14, 2147483647, 0));
+    }
+
+    @Says("otherwise each of the nine parts' size() in their order, then port().")
+    static void promise26TheSumIsPutTogetherByTheOtherCalls() {
+        Linkloom x = Due.made("a%41", ALL, "a:b", null, "///p");
+        x.parse(2);
+        x.word(29);
+        x.parse(2);
+        BigInteger sum = sum();
+        for (char sign : Due.text(x).toCharArray()) {
+            sum = next(sum, sign);
+        }
+        sum = next(sum, x.refusals());
         for (int slot = 0; slot < 4; slot++) {
-            if (!x.isThere(slot)) {
-                sum = 31 * sum;
-            } else {
-                for (char part : PARTS.toCharArray()) {
-                    sum = 31 * sum + x.size(slot, part);
-                }
-                sum = 31 * sum + x.port(slot);
+            for (char part : PARTS.toCharArray()) {
+                sum = next(sum, x.size(slot, part));
             }
+            sum = next(sum, x.port(slot));
         }
-        Due.due("checksum()", x.checksum(), sum);
-        Due.due("checksum() again", x.checksum(), sum);
+        sum("four addresses", x, sum);
+    }
+
+    private static BigInteger next(BigInteger sum, int number) {
+        return sum.multiply(BigInteger.valueOf(31)).add(BigInteger.valueOf(number));
+    }
+
+    @Says("a long that goes round.")
+    static void promise26TheSumGoesRound() {
+        int[] numbers = new int[65];
+        for (int i = 0; i < 60; i++) {
+            numbers[i] = '~';
+        }
+        BigInteger want = sum(numbers);
+        Due.due("the sum is no long", want.bitLength() > 63, true);
+        sum("60 signs", Due.made("~".repeat(60)), want);
+    }
+
+    @Says("Returns a sum over all")
+    static void promise26TheSumChangesNothing() {
+        Due.asks("checksum", sum('a', 0, 0, 0, 0, 0).longValue(), () -> Due.made("a"), Linkloom::checksum);
+        Linkloom x = Due.made("a", "b");
+        Due.due("checksum again", x.checksum(), x.checksum());
+    }
+
+    @Says("An object is used for at most 512 calls after it has been made")
+    static void promise26The512thCallAnswers() {
+        Linkloom x = refusedToThe511thCall();
+        Due.due("refusals", x.refusals(), 510);
+        sum("510 refusals", refusedToThe511thCall(), sum('{', 510, 0, 0, 0, 0));
+        Due.due("type", refusedToThe511thCall().type('a'), 2);
+        Due.due("type", Due.answer(refusedToThe511thCall(), y -> y.type('0')),
+                IllegalArgumentException.class.getName());
+    }
+
+    private static Linkloom refusedToThe511thCall() {
+        Linkloom x = new Linkloom();
+        x.type('{');
+        for (int call = 2; call <= 511; call++) {
+            x.parse(0);
+        }
+        return x;
     }
 }
